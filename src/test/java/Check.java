@@ -62,10 +62,10 @@ final class Check {
 
     /** Puts a row of numbers of one byte into a slot. */
     static void row(MoleBoard x, int slot, int... numbers) {
-        row(x, slot, 0, numbers);
+        wideRow(x, slot, 0, numbers);
     }
 
-    static void row(MoleBoard x, int slot, int width, int... numbers) {
+    static void wideRow(MoleBoard x, int slot, int width, int... numbers) {
         due("row(" + slot + ", " + width + ", " + numbers.length + ")", x.row(slot, width, numbers.length), 0);
         for (int i = 0; i < numbers.length; i++) {
             due("write(" + slot + ", " + i + ", " + numbers[i] + ")", x.write(slot, i, numbers[i]), 0);
