@@ -1526,7 +1526,7 @@ public final class MoleBoard {
             begin();
             Drum drum = board.drum;
             int k = start;
-            while (size < GAME && drum.has(k) && hasRoom(board)) {
+            for (int i = 0; i < GAME && drum.has(k) && hasRoom(board); i++) {
                 add(board, drum.first[k], drum.other[k], drum.red[k]);
                 k = k + 1 < drum.size ? k + 1 : 0;
             }
@@ -1538,7 +1538,7 @@ public final class MoleBoard {
             long x = seed;
             int before = NONE;
             int ahead = NONE;
-            while (size < GAME && hasRoom(board)) {
+            for (int i = 0; i < GAME && hasRoom(board); i++) {
                 int many = 0;
                 for (int hole = 0; hole < board.holes(); hole++) {
                     if (!board.isShut(hole) && board.lets(law, before, ahead, hole)) {
@@ -1575,7 +1575,7 @@ public final class MoleBoard {
         }
 
         private boolean hasRoom(Board board) {
-            return board.isTick(tick + board.stayIn(tick) - 1);
+            return size < GAME && board.isTick(tick + board.stayIn(tick) - 1);
         }
 
         private void add(Board board, int hole, int twin, int isRed) {

@@ -50,6 +50,7 @@ public final class HeardTest {
         Check.due("luck of sixty", luckOf(x, 60, 4), -1);
         MoleBoard ten = Check.boardOf("board wide 4 high 3 ticks 9 pause 0; shut 3; shut 4;");
         Check.due("luck of ten to the ninth", luckOf(ten, 10, 3), 1000000000);
+        Check.due("luck of ten to the tenth", luckOf(ten, 11, 3), -1);
         ten.shut(5, 1);
         Check.due("luck of nine to the ninth", luckOf(ten, 10, 3), 387420489);
         MoleBoard two = Check.boardOf(Boards.SHUT);

@@ -132,6 +132,8 @@ public final class MostTest {
         MoleBoard y = Check.boardOf("board wide 1 high 1 ticks 7 pause 0; good 0;" + Boards.player(1, 5, 0, 0, 0));
         Check.due("slack(0) of 7 ticks", y.slack(0), 6);
         Check.due("player(0, 1) as before", y.player(0, 1), 5);
+        MoleBoard two = Check.boardOf("board wide 1 high 1 ticks 2 pause 0; stay 2 from 0; good 0;" + Boards.player(1, 20, 0, 0, 0));
+        Check.due("slack(0) of 2 ticks", two.slack(0), 1);
         Check.due("slack(0) without comings", Check.boardOf(Boards.SHUT).slack(0), 20);
     }
 

@@ -68,6 +68,8 @@ public final class RedTest {
         Check.due("line(0) of red ones alone", red.line(0), 20);
         MoleBoard good = Check.boardOf(Boards.line(1, 9, "good 0;" + Boards.player(1, 1, 0, 0, 0)));
         Check.due("line(0) of good ones alone", good.line(0), 1);
+        MoleBoard just = Check.boardOf(Boards.line(1, 3, "good 0;" + Boards.player(1, 2, 0, 0, 0)));
+        Check.due("line(0) by no more lag", just.line(0), 0);
         Check.due("line(0) without comings", Check.boardOf(Boards.SHUT).line(0), 20);
     }
 
@@ -144,6 +146,10 @@ public final class RedTest {
         // without tickets told: one for a prize, 100 points each
         MoleBoard plain = Check.boardOf("board wide 1 high 1 ticks 70 pause 0; good 0;" + Boards.player(1, 0, 0, 0, 0) + Boards.player(1, 7, 0, 0, 0));
         Check.due("prize(0) of 10 hits", plain.prize(0), 1);
+        // 49 twins and one hole of the last one: 990 points
+        MoleBoard many = Check.boardOf("board wide 2 high 1 ticks 148 pause 0; stay 3 from 0; stay 1 from 147; twin 0 1;" + Boards.player(1, 0, 0, 0, 0));
+        Check.promise(48);
+        Check.due("tickets(0) of 99 hits", many.tickets(0), 9);
         Check.due("prize(1) of no hits", plain.prize(1), -1);
         Check.promise(48);
         Check.due("tickets(0) of 10 hits", plain.tickets(0), 1);

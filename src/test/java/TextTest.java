@@ -178,6 +178,8 @@ public final class TextTest {
             fault(ahead.toString(), ahead.length() == 0 ? "good" : ";", 1);
             ahead.append(token).append(" ");
         }
+        misspelled("board wide 3 high 2 ticks 20 pause 1 ; stay 3 from 0 ; shut 1 ; good 2 ; red 2 ; twin 2 3 ; "
+            + "player pace 1 lag 1 tires 0 knows 0 waits 0 ; tickets 3 each 4 ;");
         fault("board wide 3 high 2 ticks 20 pause 1", "", 1);
         fault("board wide 3 high 2 ticks 20 pause 1 \n", "", 1);
         fault("board wide 3 high 2 ticks 20 pause 1 ", "2;", 1);
@@ -206,6 +208,23 @@ public final class TextTest {
             fault(ahead, there, fault);
         }
         Check.due("a token " + behind, behind.isEmpty() ? 1 : 0, 0);
+    }
+
+    /** Each word of a text with another first or last letter, one letter less, one more, one between, is none. */
+    private static void misspelled(String text) {
+        good(text);
+        StringBuilder ahead = new StringBuilder();
+        for (String word : text.split(" ")) {
+            if (word.matches("[a-z]+")) {
+                int last = word.length() - 1;
+                String[] wrong = {"x" + word.substring(1), word.substring(1), word.substring(0, last) + "x", word.substring(0, last),
+                    word + "z", word + "a", "z" + word, word.charAt(0) + "q" + word.substring(2)};
+                for (String other : wrong) {
+                    fault(ahead.toString(), other + " 1 ;", 1);
+                }
+            }
+            ahead.append(word).append(" ");
+        }
     }
 
     private static void faultsOfNumbers() {
@@ -323,6 +342,9 @@ public final class TextTest {
             Check.due("stay(" + ticks[i] + ")", x.stay(ticks[i]), due[i]);
         }
         Check.due("stay(0)", Check.boardOf(P + "stay 2 from 0;").stay(0), 2);
+        Check.tell(x, P);
+        Check.due("board() in place of it", x.board(), 1);
+        Check.due("stay(19) of another board", x.stay(19), 7);
     }
 
     private static void count() {
