@@ -21,8 +21,8 @@ public final class MoleBoard {
     private static final int IMAGES = 3;
     private static final int TAPE = 1200;
     private static final int LONGEST_ROW = 12;
-    private static final int MOST_LUCK = 1_000_000_000;
-    private static final int LAST_SEED = 2_000_000_000;
+    private static final int MOST_LUCK = 1000000000;
+    private static final int LAST_SEED = 2000000000;
     private static final int MOST_LAG = 20;
     private static final int MOST_KNOWN = 9;
 
@@ -1235,7 +1235,7 @@ public final class MoleBoard {
         private static final int LINE_KINDS = 8;
 
         // Above every bound of the document.
-        private static final int HUGE = 1_000_000;
+        private static final int HUGE = 1000000;
 
         final Board told = new Board();
         int fault;
@@ -1857,10 +1857,6 @@ public final class MoleBoard {
         private final long[] ways = new long[WAYS];
         private final long[] grown = new long[WAYS];
 
-        private static int at(int before, int last) {
-            return (before + 1) * HOLES + last;
-        }
-
         /** The rows of one hole. */
         void begin(Board board) {
             for (int i = 0; i < WAYS; i++) {
@@ -1868,7 +1864,7 @@ public final class MoleBoard {
             }
             for (int hole = 0; hole < board.holes(); hole++) {
                 if (!board.isShut(hole)) {
-                    ways[at(NONE, hole)] = 1;
+                    add(ways, NONE, hole, 1);
                 }
             }
         }
@@ -1880,7 +1876,7 @@ public final class MoleBoard {
             }
             for (int before = NONE; before < board.holes(); before++) {
                 for (int last = 0; last < board.holes(); last++) {
-                    if (ways[at(before, last)] > 0) {
+                    if (waysTo(before, last) > 0) {
                         growFrom(board, law, before, last);
                     }
                 }
@@ -1893,15 +1889,31 @@ public final class MoleBoard {
             int kept = law == NOT_LAST_TWO ? last : NONE;
             for (int hole = 0; hole < board.holes(); hole++) {
                 if (!board.isShut(hole) && board.lets(law, before, last, hole)) {
-                    grown[at(kept, hole)] += ways[at(before, last)];
+                    add(grown, kept, hole, waysTo(before, last));
                 }
+            }
+        }
+
+        private static int at(int before, int last) {
+            return (before + 1) * HOLES + last;
+        }
+
+        private long waysTo(int before, int last) {
+            int at = at(before, last);
+            return at >= 0 && at < WAYS ? ways[at] : 0;
+        }
+
+        private static void add(long[] rows, int before, int last, long more) {
+            int at = at(before, last);
+            if (at >= 0 && at < rows.length) {
+                rows[at] += more;
             }
         }
 
         long rowsTo(Board board, int hole) {
             long sum = 0;
             for (int before = NONE; before < board.holes(); before++) {
-                sum += ways[at(before, hole)];
+                sum += waysTo(before, hole);
             }
             return sum;
         }
