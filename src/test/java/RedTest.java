@@ -101,6 +101,10 @@ public final class RedTest {
         // 0 is near to both, 3 to the first one alone
         MoleBoard some = Check.boardOf(Boards.line(4, 6, "good 0; good 3;" + Boards.player(9, 0, 0, 0, 3) + Boards.player(9, 0, 0, 0, 0)));
         Check.due("two(0, 1, 1), the last hole", some.two(0, 1, 1), 8);
+        // none can be at 3 in time, and 0 is as good with the second one
+        MoleBoard same = Check.boardOf(Boards.line(4, 6, "good 0; good 3;" + Boards.player(3, 0, 0, 0, 0) + Boards.player(3, 0, 0, 0, 0)));
+        Check.due("two(0, 1, 0), 3 missed", same.two(0, 1, 0), 1);
+        Check.due("two(0, 1, 1), 3 missed", same.two(0, 1, 1), 0);
         // the second one is too late for any
         MoleBoard late = Check.boardOf(Boards.line(2, 6, "good 0; good 1;" + Boards.player(2, 0, 0, 0, 0) + Boards.player(2, 20, 0, 0, 0)));
         Check.due("two(0, 1, 0)", late.two(0, 1, 0), 2);
