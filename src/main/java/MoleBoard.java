@@ -1294,7 +1294,8 @@ public final class MoleBoard {
             }
             String shape = shapeOf(kind);
             int nth = 0;
-            for (int at = shape.indexOf(' ') + 1; at < shape.length(); at = behindBlank(shape, at)) {
+            int at = behindBlank(shape, 0);
+            for (int token = 1; token < shape.length() && at < shape.length(); token++) {
                 step();
                 if (!standsAt(shape, at)) {
                     blame(MISPLACED);
@@ -1309,6 +1310,7 @@ public final class MoleBoard {
                     values[nth] = value;
                     nth++;
                 }
+                at = behindBlank(shape, at);
             }
             apply(kind);
             told.lines++;
@@ -1790,7 +1792,7 @@ public final class MoleBoard {
      */
     static final class Best {
         private static final int LEVELS = 2 * GAME + 1;
-        private static final int NEVER = Integer.MAX_VALUE;
+        private static final int NEVER = 2147483647;
 
         private final int[] free = new int[HOLES * LEVELS];
 

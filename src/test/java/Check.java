@@ -60,6 +60,63 @@ final class Check {
         return x;
     }
 
+    /** A text that is taken: as many LINES as it has, no fault. */
+    static MoleBoard good(String text) {
+        MoleBoard x = boardOf(text);
+        due("fault(0) of " + text, x.fault(0), 0);
+        due("fault(1) of " + text, x.fault(1), -1);
+        return x;
+    }
+
+    /** The text up to its fault, what stands there, and which fault that is. */
+    static void fault(String ahead, String there, int fault) {
+        MoleBoard x = new MoleBoard();
+        tell(x, ahead + there);
+        due("board() of " + ahead + there, x.board(), -4);
+        due("fault(0) of " + ahead + there, x.fault(0), fault);
+        due("fault(1) of " + ahead + there, x.fault(1), ahead.length());
+    }
+
+    /** What can be told of an object by some 150 calls that change nothing: its board, its slots, its tape's length. */
+    static long[] state(MoleBoard x) {
+        long[] told = new long[200];
+        int n = 0;
+        for (int what = 0; what <= 10; what++) {
+            told[n++] = x.count(what);
+        }
+        int comings = x.count(4);
+        for (int k = 0; k < comings; k++) {
+            for (int what = 0; what < 3; what++) {
+                told[n++] = x.drum(k, what);
+            }
+        }
+        int players = x.count(5);
+        for (int player = 0; player < players; player++) {
+            for (int what = 0; what < 5; what++) {
+                told[n++] = x.player(player, what);
+            }
+            told[n++] = x.tickets(player);
+            told[n++] = x.prize(player);
+        }
+        for (int tick : new int[] {0, 1, 10, 19, 20, 59, 199}) {
+            told[n++] = x.stay(tick);
+        }
+        for (int slot = 0; slot < 4; slot++) {
+            long[] of = {x.period(slot), x.periods(slot), x.fits(slot), x.place(slot, 0), x.next(slot), x.counted(slot), x.scored(slot)};
+            for (long one : of) {
+                told[n++] = one;
+            }
+        }
+        return told;
+    }
+
+    static void same(String call, MoleBoard x, long[] before) {
+        long[] after = state(x);
+        for (int i = 0; i < before.length; i++) {
+            due("state " + i + " behind " + call, after[i], before[i]);
+        }
+    }
+
     /** Puts a row of numbers of one byte into a slot. */
     static void row(MoleBoard x, int slot, int... numbers) {
         wideRow(x, slot, 0, numbers);

@@ -78,7 +78,7 @@ public final class LanguageTest {
     private static void words(String code) {
         String[] never = {"\\b(throw|throws|try|catch|finally|synchronized|assert|native|volatile|package)\\b",
             "::", "\\b(hashCode|getClass)\\(", "\\w+Exact\\(", "\\bstatic \\{", "\\bwhile \\(true\\)", "for \\(;;\\)",
-            "\" \\+|\\+ \"", "\\b(System\\.(?!arraycopy)|Thread|Random|File)\\b"};
+            "\\b(Integer|Long|Math)\\.(?!(bitCount|max|min|abs|floorMod|floorDiv|compare)\\()", "\" \\+|\\+ \"", "\\b(System\\.(?!arraycopy)|Thread|Random|File)\\b"};
         for (String one : never) {
             Matcher m = Pattern.compile(one).matcher(code);
             due("no " + one + (m.find() ? ": " + m.group() : ""), m.reset().find() == false);

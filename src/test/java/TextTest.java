@@ -143,21 +143,14 @@ public final class TextTest {
         Check.due("fault(1)", x.fault(1), -1);
     }
 
-    /** The text up to its fault, what stands there, and which fault that is. */
     private static void fault(String ahead, String there, int fault) {
         Check.promise(5);
-        MoleBoard x = new MoleBoard();
-        Check.tell(x, ahead + there);
-        Check.due("board() of " + ahead + there, x.board(), -4);
-        Check.due("fault(0) of " + ahead + there, x.fault(0), fault);
-        Check.due("fault(1) of " + ahead + there, x.fault(1), ahead.length());
+        Check.fault(ahead, there, fault);
     }
 
     private static void good(String text) {
         Check.promise(5);
-        MoleBoard x = Check.boardOf(text);
-        Check.due("fault(0) of " + text, x.fault(0), 0);
-        Check.due("fault(1) of " + text, x.fault(1), -1);
+        Check.good(text);
     }
 
     private static void faultsOfTokens() {
