@@ -10,6 +10,7 @@ public final class MostEdgeTest {
         bestInTheLastTick();
         bestLeavesOut();
         bestTakesATwinEitherWay();
+        bestFreeBehindATwin();
         bestTakesOneOfATwinAlone();
         aheadBounds();
         aheadOfNone();
@@ -121,6 +122,13 @@ public final class MostEdgeTest {
             best(x, 3);
             Check.due("hits(0)", x.hits(0), 2);
         }
+    }
+
+    private static void bestFreeBehindATwin() {
+        // 1 in tick 0 and 0 in tick 2, free in tick 3: 3 steps to 3, where ticks 3 .. 5 are in time from tick 2 on alone
+        best(line(6, "twin 0 1; good 3;", Boards.player(1, 0, 0, 0, 1)), 2);
+        best(line(6, "twin 0 1; good 3;", Boards.player(1, 0, 0, 0, 0)), 3);
+        best(Check.boardOf("board wide 4 high 1 ticks 7 pause 0; stay 3 from 0; stay 4 from 3; twin 0 1; good 3;" + Boards.player(1, 0, 0, 0, 1)), 3);
     }
 
     private static void bestTakesOneOfATwinAlone() {
