@@ -904,7 +904,7 @@ public final class MoleBoard {
         if (!slots[slot].isMade()) {
             return EMPTY;
         }
-        return slots[slot].isBelow(0, 1, now.holes()) ? 0 : NO_SUCH;
+        return slots[slot].isBelow(now.holes(), now.holes()) ? 0 : NO_SUCH;
     }
 
     /** 0 if the slot has a row of blows, with the game dealt for them, else what to answer. */
@@ -916,7 +916,7 @@ public final class MoleBoard {
         if (!row.isMade()) {
             return EMPTY;
         }
-        if (row.size % 2 != 0 || !row.isBelow(0, 2, now.holes()) || !row.isBelow(1, 2, now.ticks)) {
+        if (row.size % 2 != 0 || !row.isBelow(now.holes(), now.ticks)) {
             return NO_SUCH;
         }
         game.deal(now, now.drum.stands);
@@ -1988,10 +1988,11 @@ public final class MoleBoard {
             return i >= 0 && n >= 0 && i <= size && n <= size - i;
         }
 
-        /** Whether each so manieth number from one on is 0 or above and below a bound. */
-        boolean isBelow(int from, int apart, int bound) {
-            for (int i = from; i < size; i += apart) {
-                if (numbers[i] < 0 || numbers[i] >= bound) {
+        /** Whether all numbers are 0 or above, and below a bound: every second one has a bound of its own. */
+        boolean isBelow(int bound, int secondBound) {
+            for (int i = 0; i < size; i++) {
+                int above = i % 2 == 0 ? bound : secondBound;
+                if (numbers[i] < 0 || numbers[i] >= above) {
                     return false;
                 }
             }
